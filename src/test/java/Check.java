@@ -1,0 +1,51 @@
+import java.util.Objects;
+import java.util.function.Consumer;
+import java.util.function.Supplier;
+
+/** Counts what was as it is due, and prints what was not. */
+final class Check {
+    private final String suite;
+    private int passed;
+    private int failed;
+
+    Check(String suite) {
+        this.suite = suite;
+    }
+
+    void due(String what, Object got, Object want) {
+        if (Objects.equals(got, want)) {
+            passed++;
+        } else {
+            failed++;
+            System.out.println(suite + ": " + what + " answered " + got + ", due is " + want);
+        }
+    }
+
+    /** A call that must throw just this, and leave the object as one on which it was not made. */
+    void refuses(String what, Class<? extends RuntimeException> want, Supplier<MeetingServer> made,
+            Consumer<MeetingServer> call) {
+        MeetingServer called = made.get();
+        due(what + " throws", thrownBy(() -> call.accept(called)), want.getSimpleName());
+        due(what + " changes nothing", Look.at(called), Look.at(made.get()));
+    }
+
+    static String thrownBy(Runnable call) {
+        try {
+            call.run();
+            return "nothing";
+        } catch (RuntimeException thrown) {
+            return thrown.getClass().getSimpleName();
+        }
+    }
+
+    void end() {
+        System.out.println(suite + ": " + passed + " as due, " + failed + " not");
+        if (failed > 0) {
+            System.exit(1);
+        }
+        if (passed == 0) {
+            System.out.println(suite + ": nothing was checked");
+            System.exit(1);
+        }
+    }
+}
