@@ -21,8 +21,22 @@ final class Check {
         }
     }
 
-    /** A call that must throw just this, and leave the object as one on which it was not made. */
-    void refuses(String what, Class<? extends RuntimeException> want, Supplier<MeetingServer> made,
+    /** A call on an object made anew must throw IndexOutOfBoundsException, and change nothing. */
+    void noPlace(String what, Supplier<MeetingServer> made, Consumer<MeetingServer> call) {
+        refuses(what, IndexOutOfBoundsException.class, made, call);
+    }
+
+    /** The same with IllegalArgumentException. */
+    void badArgument(String what, Supplier<MeetingServer> made, Consumer<MeetingServer> call) {
+        refuses(what, IllegalArgumentException.class, made, call);
+    }
+
+    /** The same with IllegalStateException. */
+    void badState(String what, Supplier<MeetingServer> made, Consumer<MeetingServer> call) {
+        refuses(what, IllegalStateException.class, made, call);
+    }
+
+    private void refuses(String what, Class<? extends RuntimeException> want, Supplier<MeetingServer> made,
             Consumer<MeetingServer> call) {
         MeetingServer called = made.get();
         due(what + " throws", thrownBy(() -> call.accept(called)), want.getSimpleName());
