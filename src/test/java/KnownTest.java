@@ -18,6 +18,8 @@ public final class KnownTest {
         answers();
         answersInAnyOrder();
         answersOfDelegates();
+        answersByTheLogAlone();
+        answersOfPeopleAndDaysApart();
         agrees();
         agreesOnEachDate();
         proposals();
@@ -146,6 +148,16 @@ public final class KnownTest {
         server.answer(1, 0, 6, ACCEPTED);
         server.deliver(4);
         known("with the stand as its sequence", server, 1, 6, ACCEPTED);
+        server.move(0, 8, 310);
+        server.send(0);
+        server.deliver(5);
+        server.answer(1, 0, NONE, TENTATIVE);
+        CHECK.due("32: for all, with the stand as its sequence", server.ownAnswer(1, 0, 8), TENTATIVE);
+        known("the one for all below the stand", server, 1, 8, NEEDED);
+        server.deliver(6);
+        known("for all, with the stand as its sequence", server, 1, 8, TENTATIVE);
+        server.answer(1, 0, 4, DECLINED);
+        server.deliver(7);
         server.cancel(0);
         known("cancelled", server, 1, 4, DECLINED);
         server.invite(server.make(1, 0, 4, 1, 1), 2, true);
@@ -195,6 +207,72 @@ public final class KnownTest {
         server.invite(0, 3, false);
         known("of one who is left out", server, 3, 4, NONE);
         known("delegated all the same", server, 1, 4, DELEGATED);
+    }
+
+    /** Of two meetings, with delegations of different people: nothing of another call helps it. */
+    private static void answersByTheLogAlone() {
+        MeetingServer server = new MeetingServer();
+        for (int meeting = 0; meeting < 2; meeting++) {
+            server.make(4, 0, 3, 10, 1);
+            server.invite(meeting, meeting, true);
+            server.send(meeting);
+            server.deliver(server.messages() - 1);
+            server.delegate(meeting, meeting, 2 + meeting);
+            deliverFrom(server, server.messages() - 2);
+        }
+        CHECK.due("35: a delegate", server.answerByLog(0, 2, 3), NEEDED);
+        CHECK.due("35: a delegate of the other meeting", server.answerByLog(1, 3, 3), NEEDED);
+        CHECK.due("35: who delegated", server.answerByLog(0, 0, 3), DELEGATED);
+        CHECK.due("35: delegate of the other meeting alone", server.answerByLog(0, 3, 3), NONE);
+        CHECK.due("34: the person 0 who delegated", server.answerOf(0, 0, 3), DELEGATED);
+        CHECK.due("33: the delegate of the person 0", server.isAsked(0, 2), true);
+        CHECK.due("36: the person 0 agrees", server.agrees(0), true);
+        server.answer(0, 0, NONE, ACCEPTED);
+        CHECK.due("36: the person 0 does not agree", server.agrees(0), false);
+    }
+
+    /** One answer for one date matters to this person and this date alone. */
+    private static void answersOfPeopleAndDaysApart() {
+        for (int organiser = 0; organiser < 5; organiser += 4) {
+            for (int day = 0; day < 60; day += 59) {
+                for (int person = 0; person < 5; person++) {
+                    if (person != organiser) {
+                        answersApart(organiser, person, day);
+                    }
+                }
+            }
+        }
+        answersApart(0, 1, 58);
+        answersApart(0, 2, 1);
+    }
+
+    private static void answersApart(int organiser, int who, int date) {
+        MeetingServer server = new MeetingServer();
+        server.make(organiser, 0, 0, 9, 1);
+        for (int day = 1; day < 60; day++) {
+            server.add(0, day);
+        }
+        for (int person = 0; person < 5; person++) {
+            if (person != organiser) {
+                server.invite(0, person, true);
+            }
+        }
+        server.send(0);
+        deliverFrom(server, 0);
+        for (int person = 0; person < 5; person++) {
+            if (person != organiser) {
+                server.answer(person, 0, NONE, TENTATIVE);
+            }
+        }
+        deliverFrom(server, 4);
+        server.deliver(server.answer(who, 0, date, ACCEPTED));
+        for (int person = 0; person < 5; person++) {
+            for (int day = 0; day < 60 && person != organiser; day++) {
+                int want = person == who && day == date ? ACCEPTED : TENTATIVE;
+                known("of person " + person + " for " + day, server, person, day, want);
+                CHECK.due("32: of person " + person + " for " + day, server.ownAnswer(person, 0, day), want);
+            }
+        }
     }
 
     // ---- 36

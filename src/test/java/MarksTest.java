@@ -14,6 +14,7 @@ public final class MarksTest {
         forgottenByTheOrganiser();
         thereAgain();
         forgottenByOthers();
+        firstMarkGone();
         backFromGone();
         refuse();
         CHECK.end();
@@ -204,6 +205,18 @@ public final class MarksTest {
         server.deliver(9);
         changed("the next one, too", server, 1, 7, "2 3 4");
         CHECK.due("28: the copy is not forgotten", server.sequence(1, 1), 2);
+    }
+
+    private static void firstMarkGone() {
+        MeetingServer server = new MeetingServer();
+        for (int meeting = 0; meeting < 4; meeting++) {
+            server.make(0, 0, meeting, 10, 1);
+            server.invite(meeting, 1, false);
+            server.send(meeting);
+            server.deliver(meeting);
+        }
+        changed("left out from the first one on", server, 1, 1, "1 2 3");
+        CHECK.due("43: the floor 1", Look.canBeAsked(server, 1, 0), false);
     }
 
     private static void backFromGone() {

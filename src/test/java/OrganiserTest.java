@@ -101,6 +101,9 @@ public final class OrganiserTest {
         CHECK.due("7: the day 59", Look.dates(server, 0, 0), "5 59");
         server.time(0, 0, 23, 1);
         CHECK.due("7: the day 0", Look.dates(server, 0, 0), "0 2 5 6 8");
+        server.repeat(0, 1, 1 + 2, 4);
+        server.time(0, 14, 7, 1);
+        CHECK.due("7: the rule stays", Look.dates(server, 0, 0), "5 14 15 21 22");
         MeetingServer answered = Scenes.accepted();
         CHECK.due("7: answered", answered.answerOf(0, 1, 4), ACCEPTED);
         answered.time(0, 2, 9, 1);
@@ -322,6 +325,8 @@ public final class OrganiserTest {
         CHECK.due("12: left out no more", server.isThere(3, 0), true);
         CHECK.due("12: left out without an invitation", server.invite(0, 4, false), 4);
         CHECK.due("12: others stay as they are", server.isAsked(0, 3), true);
+        server.invite(0, 2, false);
+        CHECK.due("12: two are left out", server.send(0), 3);
         MeetingServer answered = Scenes.accepted();
         answered.invite(0, 2, true);
         CHECK.due("12: no stand", answered.answerOf(0, 1, 4), ACCEPTED);
