@@ -52,8 +52,8 @@ public final class LanguageTest extends TreePathScanner<Void, Void> {
             "java.util.Arrays.fill(int[],int)", "java.util.Arrays.fill(byte[],byte)", "Array.clone()",
             "java.lang.Integer.bitCount(int)", "java.lang.Long.bitCount(long)", "java.lang.Math.max(int,int)",
             "java.lang.StringBuilder.append(char)", "java.lang.StringBuilder.append(int)",
-            "java.lang.StringBuilder.append(java.lang.String)", "java.lang.AbstractStringBuilder.length()",
-            "java.lang.AbstractStringBuilder.charAt(int)");
+            "java.lang.StringBuilder.append(java.lang.String)", "java.lang.StringBuilder.length()",
+            "java.lang.StringBuilder.charAt(int)");
     private static final Set<String> THROWN = Set.of("IllegalStateException", "IllegalArgumentException",
             "IndexOutOfBoundsException", "ArithmeticException", "UnsupportedOperationException",
             "NoSuchElementException", "RuntimeException");
@@ -208,7 +208,9 @@ public final class LanguageTest extends TreePathScanner<Void, Void> {
             CHECK.due("rules 4 and 6: new " + name, THROWN.contains(name) || name.equals("StringBuilder")
                     || name.equals("Object"), true);
         } else {
-            CHECK.due("rule 4: the library's " + owner + "." + called, LIBRARY.contains(owner + "." + called), true);
+            // the class above StringBuilder has some of its methods
+            String name = (owner + "." + called).replace("AbstractStringBuilder", "StringBuilder");
+            CHECK.due("rule 4: the library's " + name, LIBRARY.contains(name), true);
         }
     }
 
