@@ -36,11 +36,15 @@ final class Check {
         refuses(what, IllegalStateException.class, made, call);
     }
 
-    private void refuses(String what, Class<? extends RuntimeException> want, Supplier<MeetingServer> made,
+    /** Each thing that can be seen is looked at on objects of its own: a look makes calls, too. */
+    void refuses(String what, Class<? extends RuntimeException> want, Supplier<MeetingServer> made,
             Consumer<MeetingServer> call) {
-        MeetingServer called = made.get();
-        due(what + " throws", thrownBy(() -> call.accept(called)), want.getSimpleName());
-        due(what + " changes nothing", Look.at(called), Look.at(made.get()));
+        for (Look look : Look.values()) {
+            MeetingServer called = made.get();
+            String thrown = thrownBy(() -> call.accept(called));
+            due(what + " throws", thrown, want.getSimpleName());
+            due(what + " changes nothing: " + look, look.at(called), look.at(made.get()));
+        }
     }
 
     static String thrownBy(Runnable call) {

@@ -247,6 +247,18 @@ public final class KnownTest {
     }
 
     private static void answersApart(int organiser, int who, int date) {
+        for (int person = 0; person < 5; person++) {
+            MeetingServer server = oneAnswerApart(organiser, who, date);
+            for (int day = 0; day < 60 && person != organiser; day++) {
+                int want = person == who && day == date ? ACCEPTED : TENTATIVE;
+                known("of person " + person + " for " + day, server, person, day, want);
+                CHECK.due("32: of person " + person + " for " + day, server.ownAnswer(person, 0, day), want);
+            }
+        }
+    }
+
+    /** A meeting on all days, for all of which all but one for a date are TENTATIVE. */
+    private static MeetingServer oneAnswerApart(int organiser, int who, int date) {
         MeetingServer server = new MeetingServer();
         server.make(organiser, 0, 0, 9, 1);
         for (int day = 1; day < 60; day++) {
@@ -266,13 +278,7 @@ public final class KnownTest {
         }
         deliverFrom(server, 4);
         server.deliver(server.answer(who, 0, date, ACCEPTED));
-        for (int person = 0; person < 5; person++) {
-            for (int day = 0; day < 60 && person != organiser; day++) {
-                int want = person == who && day == date ? ACCEPTED : TENTATIVE;
-                known("of person " + person + " for " + day, server, person, day, want);
-                CHECK.due("32: of person " + person + " for " + day, server.ownAnswer(person, 0, day), want);
-            }
-        }
+        return server;
     }
 
     // ---- 36

@@ -26,8 +26,8 @@ public final class ZonesTest {
         CHECK.due("1: messages", server.messages(), 0);
         for (int zone = 0; zone < 3; zone++) {
             for (int hour = -100; hour <= 2000; hour++) {
-                CHECK.due("1: local", server.local(zone, hour), hour);
-                CHECK.due("1: common", server.common(zone, hour), hour);
+                CHECK.due("1: local", new MeetingServer().local(zone, hour), hour);
+                CHECK.due("1: common", new MeetingServer().common(zone, hour), hour);
             }
             CHECK.due("1: no summer", server.setSummer(zone, 5, 6), MeetingServer.NONE);
             CHECK.due("1: no offset", server.setOffset(zone, 1), 0);
